@@ -743,6 +743,13 @@ public final class PromiseTest {
         due("16: behind 29 years", last.advise(0, 29), 6 + 24 * 6);
         due("16: behind 30 years", last.advise(0, 30), 6 + 24 * 6);
         due("16: not behind 28", last.advise(0, 28), -1);
+        last.pass(28);
+        due("16: behind one year", last.advise(0, 1), 6 + 24 * 6);
+        MeanderFarm little = oneBulge();
+        little.addFarm(6, 6, 1, 1);
+        little.setFlow(0, 1);
+        little.pass(1);
+        due("16: a wear of 1 is wear", little.advise(0, 10), 6 + 24 * 6);
     }
 
     private static void promise17() {
