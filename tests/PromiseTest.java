@@ -759,22 +759,29 @@ public final class PromiseTest {
         due("17: 32", highNeck().winding(), 32 / 24.0);
     }
 
-    private static long checksum(MeanderFarm x) {
+    private interface Recipe {
+        MeanderFarm make();
+    }
+
+    /** By several objects that are made alike, as none is good for more than 512 calls. */
+    private static long checksum(Recipe recipe) {
         List<Integer> all = new ArrayList<>();
+        MeanderFarm x = recipe.make();
         for (int what = 0; what < 8; what++) {
             all.add(x.count(what));
         }
+        MeanderFarm flows = recipe.make();
         for (int year = 0; year < 12; year++) {
-            int flow = x.setFlow(year, 1);
-            x.setFlow(year, flow);
-            all.add(flow);
+            all.add(flows.setFlow(year, 1));
         }
         for (int index = 0; index < x.count(1); index++) {
             all.add(x.course(index, 0));
         }
+        int[] kinds = {0, 1, 2, 4};
+        MeanderFarm[] alike = {recipe.make(), recipe.make(), recipe.make(), recipe.make()};
         for (int cell = 0; cell < 384; cell++) {
-            for (int what : new int[] {0, 1, 2, 4}) {
-                all.add(x.cell(cell % 24, cell / 24, what));
+            for (int k = 0; k < 4; k++) {
+                all.add(alike[k].cell(cell % 24, cell / 24, kinds[k]));
             }
         }
         for (int farm = 0; farm < x.count(4); farm++) {
@@ -789,8 +796,7 @@ public final class PromiseTest {
         return d;
     }
 
-    private static void promise18() {
-        due("18: a new object", new MeanderFarm().digest() == checksum(new MeanderFarm()) ? 1 : 0, 1);
+    private static MeanderFarm manySided() {
         MeanderFarm x = oneNeck();
         x.addFarm(3, 4, 5, 6);
         x.addFarm(5, 8, 2, 2);
@@ -798,7 +804,13 @@ public final class PromiseTest {
         x.setHardness(9, 9, 1);
         x.setStones(6, 8, true);
         x.pass(15);
+        return x;
+    }
+
+    private static void promise18() {
+        due("18: a new object", new MeanderFarm().digest() == checksum(MeanderFarm::new) ? 1 : 0, 1);
+        MeanderFarm x = manySided();
         due("18: it tells the same twice", x.digest() == x.digest() ? 1 : 0, 1);
-        due("18: after years", x.digest() == checksum(x) ? 1 : 0, 1);
+        due("18: after years", x.digest() == checksum(PromiseTest::manySided) ? 1 : 0, 1);
     }
 }
