@@ -18,10 +18,13 @@ public final class EdgeTest {
     private static final int RIGHT = 1;
     private static final int DOWN = 2;
     private static final int LEFT = 3;
+    private static final int[][] NO_CELLS = {{-1, 0}, {24, 0}, {0, -1}, {0, 16}, {-1, 15}, {24, 15}, {23, -1},
+        {23, 16}, {24, -1}, {LEAST, 0}, {MOST, 0}, {0, LEAST}, {0, MOST}, {0, ROW_THAT_WRAPS}, {MOST, MOST}};
 
     private static String sentence = "";
     private static int sentences = 0;
     private static int checks = 0;
+    private static int checksAhead = 0;
     private static int wrong = 0;
 
     private interface Recipe {
@@ -72,8 +75,6 @@ public final class EdgeTest {
     }
 
     // ---- how a sentence is tested
-
-    private static int checksAhead = 0;
 
     /** Begins the test of a sentence. */
     private static void says(String words) {
@@ -140,7 +141,7 @@ public final class EdgeTest {
         return x;
     }
 
-    /** All that an object tells, and what becomes of it; by several objects, as none is good for more than 512 calls. */
+    /** All that an object tells, and what becomes of it; by several, as none is good for more than 512 calls. */
     private static List<Object> view(Recipe recipe) {
         List<Object> told = new ArrayList<>();
         for (int what = 0; what < 6; what++) {
@@ -230,7 +231,7 @@ public final class EdgeTest {
         return x;
     }
 
-    /** A bulge of so many rows, with its legs in the columns beside this one; its middle is the cell column + rows - 1. */
+    /** A bulge of so many rows, with its legs in the columns beside this one. */
     private static MeanderFarm tall(int column, int rows, int side) {
         MeanderFarm x = new MeanderFarm();
         for (int row = 0; row < rows; row++) {
@@ -966,15 +967,16 @@ public final class EdgeTest {
             due("setHardness(" + at[0] + ", " + at[1] + ", 5)", plain().setHardness(at[0], at[1], 5), 3);
         }
         for (int[] at : NO_CELLS) {
-            refused(EdgeTest::busy, INDEX, "setHardness(" + at[0] + ", " + at[1] + ", 5)", x -> x.setHardness(at[0], at[1], 5));
+            String call = "setHardness(" + at[0] + ", " + at[1] + ", 5)";
+            refused(EdgeTest::busy, INDEX, call, x -> x.setHardness(at[0], at[1], 5));
         }
 
         says("2: IllegalArgumentException if hardness is not 1 to 9");
         due("1", plain().setHardness(6, 6, 1), 3);
         due("9", plain().setHardness(6, 6, 9), 3);
         for (int hardness : new int[] {0, 10, -1, LEAST, MOST}) {
-            refused(EdgeTest::busy, ARGUMENT, "setHardness(6, 6, " + hardness + ")", x -> x.setHardness(6, 6, hardness));
-            refused(EdgeTest::busy, INDEX, "setHardness(24, 6, " + hardness + ")", x -> x.setHardness(24, 6, hardness));
+            refused(EdgeTest::busy, ARGUMENT, "hardness " + hardness, x -> x.setHardness(6, 6, hardness));
+            refused(EdgeTest::busy, INDEX, "nor a cell, hardness " + hardness, x -> x.setHardness(24, 6, hardness));
         }
 
         says("3: IndexOutOfBoundsException if there is no such cell");
@@ -982,8 +984,9 @@ public final class EdgeTest {
             due("setStones(" + at[0] + ", " + at[1] + ", true)", plain().setStones(at[0], at[1], true), 1);
         }
         for (int[] at : NO_CELLS) {
-            refused(EdgeTest::busy, INDEX, "setStones(" + at[0] + ", " + at[1] + ", true)", x -> x.setStones(at[0], at[1], true));
-            refused(EdgeTest::busy, INDEX, "setStones(" + at[0] + ", " + at[1] + ", false)", x -> x.setStones(at[0], at[1], false));
+            String call = "setStones(" + at[0] + ", " + at[1] + ", ";
+            refused(EdgeTest::busy, INDEX, call + "true)", x -> x.setStones(at[0], at[1], true));
+            refused(EdgeTest::busy, INDEX, call + "false)", x -> x.setStones(at[0], at[1], false));
         }
 
         says("3: Returns how many cells have stones then");
@@ -1015,15 +1018,13 @@ public final class EdgeTest {
         }
     }
 
-    private static final int[][] NO_CELLS = {{-1, 0}, {24, 0}, {0, -1}, {0, 16}, {-1, 15}, {24, 15}, {23, -1}, {23, 16},
-        {24, -1}, {LEAST, 0}, {MOST, 0}, {0, LEAST}, {0, MOST}, {0, ROW_THAT_WRAPS}, {MOST, MOST}};
-
     private static void promise5() {
         says("5: IndexOutOfBoundsException if there is no such cell");
         due("cell(23, 15, 0)", plain().cell(23, 15, 0), 3);
         for (int[] at : NO_CELLS) {
             for (int what : new int[] {0, 5, 6}) {
-                refused(EdgeTest::busy, INDEX, "cell(" + at[0] + ", " + at[1] + ", " + what + ")", x -> x.cell(at[0], at[1], what));
+                String call = "cell(" + at[0] + ", " + at[1] + ", " + what + ")";
+                refused(EdgeTest::busy, INDEX, call, x -> x.cell(at[0], at[1], what));
             }
         }
 
