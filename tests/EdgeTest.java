@@ -723,6 +723,15 @@ public final class EdgeTest {
     // ---- a year
 
     private static void wearInAYear() {
+        says("for each straight cell that is thrown");
+        MeanderFarm shared = bankOfTwo();
+        dueThrown("to the right", shared, shared.cell(2, 6, 3), RIGHT, cellNumber(3, 6));
+        dueThrown("to the left", shared, shared.cell(4, 6, 3), LEFT, cellNumber(3, 6));
+        shared.pass(1);
+        due("a bank of two thrown cells", shared.cell(3, 6, 1), 6);
+        due("the bank of one above it", shared.cell(3, 5, 1), 3);
+        due("the bank of one below it", shared.cell(3, 7, 1), 3);
+
         says("its bank, if it is in the plain");
         MeanderFarm inside = tall(6, 7, UP);
         inside.pass(1);
@@ -764,6 +773,17 @@ public final class EdgeTest {
             due("a flow of " + flow, year.cell(6, 6, 1), flow);
             due("5 behind the bend", year.cell(12, 9, 1), 0);
         }
+    }
+
+    /** Two bulges, of which the second one has a bulge to the first one: they have the bank (3, 6) in common. */
+    private static MeanderFarm bankOfTwo() {
+        MeanderFarm x = tall(1, 4, UP);
+        int top = x.cell(6, 8, 3);
+        for (int row = 0; row < 4; row++) {
+            x.slip(top + row, UP);
+        }
+        x.slip(x.cell(5, 6, 3), LEFT);
+        return x;
     }
 
     /** oneBulge(), where a loop of the river has left lakes below it: so its bank (8, 9) is one. */
